@@ -201,7 +201,7 @@ public final class ReferenceRules {
         if (!isReference(reference)) {
             return BAD;
         }
-        return meaning.isExact(references[reference]) ? 1 : 0;
+        return meaning.namesOneAlone(references[reference]) ? 1 : 0;
     }
 
     private boolean isReference(int reference) {
@@ -457,7 +457,7 @@ public final class ReferenceRules {
         }
 
         boolean isUnder(int a, int b) {
-            return a >= 0 && a <= ROW_OF_INTS && b >= 0 && b <= ROW_OF_INTS && (above[a] & bit(b)) != 0;
+            return a >= 0 && a <= ROW_OF_INTS && b >= 0 && b <= ROW_OF_INTS && (above[a] >> b & 1) != 0;
         }
 
         boolean isLoose(int a, int b) {
@@ -807,6 +807,7 @@ public final class ReferenceRules {
         private final Search first;
         private final Search second;
         private Search by;
+        private boolean bySecond;
 
         Meaning(Types types, Members members) {
             this.types = types;
@@ -818,6 +819,7 @@ public final class ReferenceRules {
         /** A MEMBER's number, PLAIN, or -10 less the FAULT. */
         int find(Reference r, Face f) {
             by = null;
+            bySecond = false;
             if (r.form != ROW_NEW) {
                 first.run(typeSearched(r), r.name, f.arguments, false);
             }
@@ -835,7 +837,7 @@ public final class ReferenceRules {
         }
 
         /** The MEMBER that was MEANT; null for PLAIN. */
-        Member member() {
+        Member memberMeant() {
             return by == null ? null : by.found;
         }
 
@@ -843,16 +845,13 @@ public final class ReferenceRules {
             return by != null && by.phaseOfFit == 3;
         }
 
-        boolean isBySecond() {
-            return by == second;
-        }
-
+        /** The type of what a call gives, ahead of what the FACE makes of it. */
         int whatComes(Reference r) {
             if (r.form == ROW_NEW) {
                 return r.type == INT ? ROW_OF_INTS : ROWS + r.type;
             }
-            Member m = member();
-            return r.form == TYPE_NEW || m == null ? r.type : m.result;
+            Member m = memberMeant();
+            return m == null ? r.type : m.result;
         }
 
         Search runSearch(Reference r, Face f, int which) {
@@ -864,7 +863,7 @@ public final class ReferenceRules {
             return second;
         }
 
-        boolean isExact(Reference r) {
+        boolean namesOneAlone(Reference r) {
             if (r.form == ROW_NEW) {
                 return true;
             }
@@ -910,6 +909,7 @@ public final class ReferenceRules {
             }
             if (second.found != null && !second.found.isStatic() && !first.hasStatic()) {
                 by = second;
+                bySecond = true;
                 return 0;
             }
             if (first.fit == 0 && second.fit == 0) {
@@ -968,7 +968,7 @@ public final class ReferenceRules {
         }
 
         private boolean isPlace(int row, int i) {
-            return isThing(row) && i >= 0 && i < MOST_PLACES;
+            return row >= 1 && row <= last && i >= 0 && i < MOST_PLACES;
         }
 
         void keepFirst(int howMany) {
@@ -990,8 +990,8 @@ public final class ReferenceRules {
             this.reference = reference;
             this.face = face;
             this.receiver = receiver;
-            this.member = meaning.member();
-            this.bySecond = meaning.isBySecond();
+            this.member = meaning.memberMeant();
+            this.bySecond = meaning.bySecond;
             this.inPhase3 = meaning.isInPhase3();
             this.comes = meaning.whatComes(reference);
         }
