@@ -16,11 +16,12 @@ public final class FaceTest {
         "open(1)", "face(1)", "reference(3)", "meant(2)", "search(3)", "phase(3)", "exact(1)", "thing(1)", "box(1)", "of(2)",
         "place(2)", "make(3)", "arg(2)", "call(1)", "result(0)", "traced(1)", "count(1)", "clear(0)"};
     private static final String[] CONSTANTS = {"BAD", "FULL", "STATE", "NONE", "TWO", "CLASH", "NULL", "SIZE", "PLAIN"};
+    private static final int[] AMOUNTS = {-1, -2, -3, -4, -5, -6, -21, -22, 99};
     private static final String[] FORBIDDEN = {"\\bthrows?\\b", "\\btry\\b", "\\bcatch\\b", "\\bsynchronized\\b",
         "\\bassert\\b", "\\bimport\\b", "\\bpackage\\b", "Exact\\(", "->", "::", "System\\.(?!arraycopy)"};
     private static final Due due = new Due();
 
-    public static void main(String[] args) throws IOException {
+    public static void main(String[] args) throws IOException, ReflectiveOperationException {
         methods();
         constants();
         constructors();
@@ -41,7 +42,7 @@ public final class FaceTest {
         due.holds("the methods are " + found, found.equals(new TreeSet<>(Arrays.asList(FACE))));
     }
 
-    private static void constants() {
+    private static void constants() throws ReflectiveOperationException {
         Set<String> found = new TreeSet<>();
         for (Field f : ReferenceRules.class.getDeclaredFields()) {
             if (!Modifier.isPrivate(f.getModifiers())) {
@@ -51,6 +52,9 @@ public final class FaceTest {
             }
         }
         due.holds("the constants are " + found, found.equals(new TreeSet<>(Arrays.asList(CONSTANTS))));
+        for (int i = 0; i < CONSTANTS.length; i++) {
+            due.is(CONSTANTS[i], ReferenceRules.class.getField(CONSTANTS[i]).getInt(null), AMOUNTS[i]);
+        }
     }
 
     private static void constructors() {

@@ -7,6 +7,31 @@ final class Short {
     private Short() {
     }
 
+    /** A new object with types 2, 3, .. of these parents. */
+    static ReferenceRules types(int... parents) {
+        ReferenceRules x = new ReferenceRules();
+        for (int parent : parents) {
+            x.type(parent);
+        }
+        return x;
+    }
+
+    /** A new object with all types, each below the one ahead of it. */
+    static ReferenceRules lineOfTypes() {
+        return types(0, 2, 3, 4, 5, 6, 7, 8);
+    }
+
+    /** A value of a STATIC member, which a reference TYPE::name finds for a face. */
+    static int staticValue(ReferenceRules x, int t, int name, int result, int... arguments) {
+        return x.make(x.reference(0, t, name), face(x, result, arguments), 0);
+    }
+
+    static void fillThings(ReferenceRules x, int upTo) {
+        for (int i = x.count(4); i < upTo; i++) {
+            x.box(0);
+        }
+    }
+
     static int row(int t) {
         return t == INT ? INTS : 20 + t;
     }
